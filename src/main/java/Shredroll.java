@@ -1,6 +1,6 @@
 import java.util.NoSuchElementException;
 
-/** A book of worn-out disks; the promises that the comments number are those of DOC.md. */
+/** A book of worn-out disks; DOC.md tells what each call promises. */
 public final class Shredroll {
     public static final int NONE = -1;
     public static final int RAW = 0, WIPED = 1, SPOILED = 2, BROKEN = 3;
