@@ -114,9 +114,10 @@ public final class ModelTest {
         }
 
         int keeperOf(int disk) {
-            if (crateOf(disk) != -1) {
-                return crateKeeper(crateOf(disk));
-            }
+            return crateOf(disk) != -1 ? crateKeeper(crateOf(disk)) : keeperByLog(disk);
+        }
+
+        int keeperByLog(int disk) {
             int keeper = -1;
             for (int[] entry : log()) {
                 keeper = entry[0] == disk ? entry[1] : keeper;
@@ -368,8 +369,8 @@ public final class ModelTest {
                 seen.add(sealOf(crate));
             }
             for (int disk = 0; disk < disks(); disk++) {
-                seen.addAll(List.of(keeperOf(disk), keeperOf(disk), crateOf(disk), stateOf(disk), isDone(disk) ? 1 : 0,
-                        offeredTo(disk), certificateOf(disk)));
+                seen.addAll(List.of(keeperOf(disk), keeperByLog(disk), crateOf(disk), stateOf(disk),
+                        isDone(disk) ? 1 : 0, offeredTo(disk), certificateOf(disk)));
             }
             return seen;
         }
