@@ -11,6 +11,11 @@ public final class ModelTest {
     private static final int RUNS = 400;
     private static final int TELLING_CALLS = 300;
 
+    private static final Class<?> INDEX = IndexOutOfBoundsException.class;
+    private static final Class<?> ARGUMENT = IllegalArgumentException.class;
+    private static final Class<?> STATE = IllegalStateException.class;
+    private static final Class<?> NO_ELEMENT = java.util.NoSuchElementException.class;
+
     private enum Kind { BRING, OFFER, TAKE, REFUSE, PACK, UNPACK, SEAL, OPEN, CARRY, WIPE, SMASH, CHECK, LOSE, FIND, CERTIFY }
 
     /** What happened: a disk, crate or keeper by its number, and what else was told. */
@@ -236,117 +241,117 @@ public final class ModelTest {
         }
 
         int bring(int kind, int secrecy, int keeper) {
-            refuseIf(!isKeeper(keeper), Tester.INDEX);
-            refuseIf(kind < 0 || kind > 2 || secrecy < 0 || secrecy > 3, Tester.ARGUMENT);
-            refuseIf(disks() == 60, Tester.STATE);
+            refuseIf(!isKeeper(keeper), INDEX);
+            refuseIf(kind < 0 || kind > 2 || secrecy < 0 || secrecy > 3, ARGUMENT);
+            refuseIf(disks() == 60, STATE);
             note(Kind.BRING, disks(), kind, secrecy, keeper);
             return disks() - 1;
         }
 
         int offer(int disk, int to) {
-            refuseIf(!isDisk(disk) || !isKeeper(to), Tester.INDEX);
-            refuseIf(keeperOf(disk) == to, Tester.ARGUMENT);
-            refuseIf(isMissing(disk) || offeredTo(disk) != -1 || crateOf(disk) != -1, Tester.STATE);
+            refuseIf(!isDisk(disk) || !isKeeper(to), INDEX);
+            refuseIf(keeperOf(disk) == to, ARGUMENT);
+            refuseIf(isMissing(disk) || offeredTo(disk) != -1 || crateOf(disk) != -1, STATE);
             note(Kind.OFFER, disk, to);
             return keeperOf(disk);
         }
 
         int answer(int disk, boolean takes) {
-            refuseIf(!isDisk(disk), Tester.INDEX);
-            refuseIf(isMissing(disk) || offeredTo(disk) == -1, Tester.STATE);
+            refuseIf(!isDisk(disk), INDEX);
+            refuseIf(isMissing(disk) || offeredTo(disk) == -1, STATE);
             note(takes ? Kind.TAKE : Kind.REFUSE, disk, offeredTo(disk));
             return keeperOf(disk);
         }
 
         int pack(int disk, int crate) {
-            refuseIf(!isDisk(disk) || !isCrate(crate), Tester.INDEX);
-            refuseIf(isMissing(disk) || offeredTo(disk) != -1 || crateOf(disk) != -1, Tester.STATE);
-            refuseIf(sealOf(crate) != -1 || crateKeeper(crate) != keeperOf(disk), Tester.STATE);
+            refuseIf(!isDisk(disk) || !isCrate(crate), INDEX);
+            refuseIf(isMissing(disk) || offeredTo(disk) != -1 || crateOf(disk) != -1, STATE);
+            refuseIf(sealOf(crate) != -1 || crateKeeper(crate) != keeperOf(disk), STATE);
             note(Kind.PACK, disk, crate);
             return inCrate(crate);
         }
 
         int unpack(int disk) {
-            refuseIf(!isDisk(disk), Tester.INDEX);
-            refuseIf(isMissing(disk) || crateOf(disk) == -1 || isSealedIn(disk), Tester.STATE);
+            refuseIf(!isDisk(disk), INDEX);
+            refuseIf(isMissing(disk) || crateOf(disk) == -1 || isSealedIn(disk), STATE);
             int crate = crateOf(disk);
             note(Kind.UNPACK, disk);
             return crate;
         }
 
         int seal(int crate) {
-            refuseIf(!isCrate(crate), Tester.INDEX);
-            refuseIf(sealOf(crate) != -1 || countOf(Kind.SEAL) == 100, Tester.STATE);
+            refuseIf(!isCrate(crate), INDEX);
+            refuseIf(sealOf(crate) != -1 || countOf(Kind.SEAL) == 100, STATE);
             note(Kind.SEAL, crate, countOf(Kind.SEAL), inCrate(crate));
             return sealOf(crate);
         }
 
         int open(int crate, int counted) {
-            refuseIf(!isCrate(crate), Tester.INDEX);
-            refuseIf(counted < 0 || counted > 99, Tester.ARGUMENT);
-            refuseIf(sealOf(crate) == -1, Tester.STATE);
+            refuseIf(!isCrate(crate), INDEX);
+            refuseIf(counted < 0 || counted > 99, ARGUMENT);
+            refuseIf(sealOf(crate) == -1, STATE);
             int above = counted - last(crate, Kind.SEAL).told[1];
             note(Kind.OPEN, crate, above);
             return above;
         }
 
         int carry(int crate, int to) {
-            refuseIf(!isCrate(crate) || !isKeeper(to), Tester.INDEX);
-            refuseIf(crateKeeper(crate) == to, Tester.ARGUMENT);
-            refuseIf(sealOf(crate) == -1 && inCrate(crate) > 0, Tester.STATE);
+            refuseIf(!isCrate(crate) || !isKeeper(to), INDEX);
+            refuseIf(crateKeeper(crate) == to, ARGUMENT);
+            refuseIf(sealOf(crate) == -1 && inCrate(crate) > 0, STATE);
             int before = crateKeeper(crate);
             note(Kind.CARRY, crate, to);
             return before;
         }
 
         void refuseIfOutOfReach(int disk) {
-            refuseIf(isMissing(disk) || offeredTo(disk) != -1 || isSealedIn(disk), Tester.STATE);
+            refuseIf(isMissing(disk) || offeredTo(disk) != -1 || isSealedIn(disk), STATE);
         }
 
         int wipe(int disk, int way, int witness) {
-            refuseIf(!isDisk(disk) || !isKeeper(witness), Tester.INDEX);
-            refuseIf(way < 0 || way > 2 || keeperOf(disk) == witness, Tester.ARGUMENT);
+            refuseIf(!isDisk(disk) || !isKeeper(witness), INDEX);
+            refuseIf(way < 0 || way > 2 || keeperOf(disk) == witness, ARGUMENT);
             refuseIfOutOfReach(disk);
-            refuseIf(stateOf(disk) == 1 || stateOf(disk) == 3, Tester.STATE);
+            refuseIf(stateOf(disk) == 1 || stateOf(disk) == 3, STATE);
             note(Kind.WIPE, disk, way, keeperOf(disk));
             return stateOf(disk);
         }
 
         int smash(int disk, int witness) {
-            refuseIf(!isDisk(disk) || !isKeeper(witness), Tester.INDEX);
-            refuseIf(keeperOf(disk) == witness, Tester.ARGUMENT);
+            refuseIf(!isDisk(disk) || !isKeeper(witness), INDEX);
+            refuseIf(keeperOf(disk) == witness, ARGUMENT);
             refuseIfOutOfReach(disk);
-            refuseIf(stateOf(disk) == 3, Tester.STATE);
+            refuseIf(stateOf(disk) == 3, STATE);
             int before = stateOf(disk);
             note(Kind.SMASH, disk);
             return before;
         }
 
         int check(int disk, int witness, boolean isGood) {
-            refuseIf(!isDisk(disk) || !isKeeper(witness), Tester.INDEX);
-            refuseIf(stateOf(disk) == 1 && last(disk, Kind.WIPE).told[1] == witness, Tester.ARGUMENT);
+            refuseIf(!isDisk(disk) || !isKeeper(witness), INDEX);
+            refuseIf(stateOf(disk) == 1 && last(disk, Kind.WIPE).told[1] == witness, ARGUMENT);
             refuseIfOutOfReach(disk);
-            refuseIf(stateOf(disk) != 1, Tester.STATE);
+            refuseIf(stateOf(disk) != 1, STATE);
             note(Kind.CHECK, disk, isGood ? 1 : 0);
             return stateOf(disk);
         }
 
         int lose(int disk) {
-            refuseIf(!isDisk(disk), Tester.INDEX);
-            refuseIf(isMissing(disk), Tester.STATE);
+            refuseIf(!isDisk(disk), INDEX);
+            refuseIf(isMissing(disk), STATE);
             note(Kind.LOSE, disk);
             return keeperOf(disk);
         }
 
         int find(int disk) {
-            refuseIf(!isDisk(disk), Tester.INDEX);
-            refuseIf(!isMissing(disk), Tester.STATE);
+            refuseIf(!isDisk(disk), INDEX);
+            refuseIf(!isMissing(disk), STATE);
             note(Kind.FIND, disk);
             return crateOf(disk);
         }
 
         int certify(int keeper) {
-            refuseIf(!isKeeper(keeper), Tester.INDEX);
+            refuseIf(!isKeeper(keeper), INDEX);
             int[] on = new int[60];
             int count = 0;
             for (int disk = 0; disk < disks(); disk++) {
@@ -354,13 +359,14 @@ public final class ModelTest {
                     on[count++] = disk;
                 }
             }
-            refuseIf(count == 0, Tester.NO_ELEMENT);
+            refuseIf(count == 0, NO_ELEMENT);
             note(Kind.CERTIFY, keeper, Arrays.copyOf(on, count));
             return count;
         }
 
-        List<Integer> picture() {
-            List<Integer> seen = new ArrayList<>(List.of(disks(), missing(), oddCounts(), log().size(), countOf(Kind.CERTIFY)));
+        /** In the order of Run.asks(). */
+        List<Object> picture() {
+            List<Object> seen = new ArrayList<>(List.of(disks(), missing(), oddCounts(), log().size(), countOf(Kind.CERTIFY)));
             for (int keeper = 0; keeper < 8; keeper++) {
                 seen.add(has(keeper));
             }
@@ -370,7 +376,7 @@ public final class ModelTest {
             }
             for (int disk = 0; disk < disks(); disk++) {
                 seen.addAll(List.of(keeperOf(disk), keeperByLog(disk), crateOf(disk), stateOf(disk),
-                        isDone(disk) ? 1 : 0, offeredTo(disk), certificateOf(disk)));
+                        isDone(disk), offeredTo(disk), certificateOf(disk)));
             }
             return seen;
         }
@@ -416,27 +422,27 @@ public final class ModelTest {
         tester.end();
     }
 
-    private static void compareRun(Tester tester, int run, int[] answered) {
-        Dice dice = new Dice(run);
-        Shredroll roll = new Shredroll();
+    private static void compareRun(Tester tester, int number, int[] answered) {
+        Dice dice = new Dice(number);
+        Run run = new Run();
         Model model = new Model();
         // Few disks, keepers and crates in most runs, so that the calls meet one another.
-        int disks = run % 8 == 0 ? 60 : 1 + dice.below(8);
-        int keepers = run % 3 == 0 ? 8 : 2 + dice.below(3);
-        int crates = run % 3 == 1 ? 10 : 1 + dice.below(3);
+        int disks = number % 8 == 0 ? 60 : 1 + dice.below(8);
+        int keepers = number % 3 == 0 ? 8 : 2 + dice.below(3);
+        int crates = number % 3 == 1 ? 10 : 1 + dice.below(3);
         for (int i = 0; i < TELLING_CALLS; i++) {
-            int call = roll.disks() < disks && dice.below(3) == 0 ? 0 : DRAWN[dice.below(DRAWN.length)];
-            if (call == 0 && roll.disks() >= disks && disks < 60) {
+            int call = model.disks() < disks && dice.below(3) == 0 ? 0 : DRAWN[dice.below(DRAWN.length)];
+            if (call == 0 && model.disks() >= disks && disks < 60) {
                 continue;
             }
             int[] told = drawArguments(dice, call, model, keepers, crates);
-            String what = "run " + run + ", call " + i + ", " + CALLS[call] + Arrays.toString(told);
-            Object due = answerOf(() -> model.tell(call, told[0], told[1], told[2]));
-            Object got = answerOf(() -> tell(roll, call, told[0], told[1], told[2]));
-            tester.due(what, got, due);
+            Call made = callOf(call, told[0], told[1], told[2]);
+            String what = "run " + number + ", call " + i + ", " + made;
+            Object due = dueOf(model, call, told);
+            tester.due(what, run.answerOf(made), due);
             answered[call] += due instanceof Integer ? 1 : 0;
             if (dice.below(10) == 0 || i == TELLING_CALLS - 1) {
-                tester.due(what + ", all that is asked afterwards", Tester.picture(roll), model.picture());
+                tester.due(what + ", all that is asked afterwards", run.picture(), model.picture());
             }
         }
     }
@@ -460,32 +466,22 @@ public final class ModelTest {
         };
     }
 
-    private static Object answerOf(Tester.Call call) {
+    private static Object dueOf(Model model, int call, int[] told) {
         try {
-            return call.run();
+            return model.tell(call, told[0], told[1], told[2]);
         } catch (Thrown e) {
             return e.due;
-        } catch (RuntimeException e) {
-            return e.getClass();
         }
     }
 
-    private static int tell(Shredroll roll, int call, int a, int b, int c) {
+    private static Call callOf(int call, int a, int b, int c) {
+        String name = CALLS[call];
         return switch (call) {
-            case 0 -> roll.bring(a, b, c);
-            case 1 -> roll.offer(a, b);
-            case 2 -> roll.answer(a, b == 1);
-            case 3 -> roll.pack(a, b);
-            case 4 -> roll.unpack(a);
-            case 5 -> roll.seal(a);
-            case 6 -> roll.open(a, b);
-            case 7 -> roll.carry(a, b);
-            case 8 -> roll.wipe(a, b, c);
-            case 9 -> roll.smash(a, b);
-            case 10 -> roll.check(a, b, c == 1);
-            case 11 -> roll.lose(a);
-            case 12 -> roll.find(a);
-            default -> roll.certify(a);
+            case 0, 8 -> Call.of(name, a, b, c);
+            case 1, 3, 6, 7, 9 -> Call.of(name, a, b);
+            case 2 -> Call.of(name, a, b == 1);
+            case 10 -> Call.of(name, a, b, c == 1);
+            default -> Call.of(name, a);
         };
     }
 }
