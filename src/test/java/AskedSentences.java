@@ -196,13 +196,13 @@ final class AskedSentences extends Sentences {
     @Says("Promise 21: Tells whether a disk is done.")
     void promise21EachDiskIsDoneOrNot() {
         bring(5, 0);
+        tell("smash", 0, 1);
         tell("wipe", 1, 1, 1);
         tell("wipe", 2, 0, 1);
+        tell("check", 2, 1, true);
         tell("wipe", 3, 0, 1);
-        tell("check", 3, 1, true);
-        tell("smash", 4, 1);
         for (int disk = 0; disk < 5; disk++) {
-            answers(disk >= 3, "isDone", disk);
+            answers(disk == 0 || disk == 2, "isDone", disk);
         }
     }
 
@@ -213,18 +213,37 @@ final class AskedSentences extends Sentences {
 
     @Says("Promise 21: Returns whether it is.")
     void promise21ADoneDiskIsDoneMissingOrElsewhere() {
-        bring(1, 0);
+        bring(2, 0);
         tell("smash", 0, 1);
-        answers(true, "isDone", 0);
-        tell("offer", 0, 1);
-        answers(true, "isDone", 0);
-        tell("lose", 0);
-        answers(true, "isDone", 0);
-        tell("find", 0);
-        tell("pack", 0, 0);
-        tell("seal", 0);
-        answers(true, "isDone", 0);
+        tell("wipe", 1, 0, 1);
+        tell("check", 1, 1, true);
+        for (int disk = 0; disk < 2; disk++) {
+            answers(true, "isDone", disk);
+            tell("offer", disk, 1);
+            answers(true, "isDone", disk);
+            tell("lose", disk);
+            answers(true, "isDone", disk);
+            tell("find", disk);
+            tell("pack", disk, disk);
+            tell("seal", disk);
+            answers(true, "isDone", disk);
+        }
         tell("certify", 0);
+        answers(true, "isDone", 0);
+        answers(true, "isDone", 1);
+    }
+
+    @Says("Promise 21: Returns whether it is.")
+    void promise21ADiskThatIsDoneNoMoreIsNotDone() {
+        bring(1, 0);
+        tell("wipe", 0, 0, 1);
+        tell("check", 0, 1, true);
+        tell("certify", 0);
+        tell("check", 0, 1, false);
+        answers(false, "isDone", 0);
+        tell("wipe", 0, 0, 1);
+        answers(false, "isDone", 0);
+        tell("smash", 0, 1);
         answers(true, "isDone", 0);
     }
 

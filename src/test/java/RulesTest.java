@@ -13,7 +13,7 @@ public final class RulesTest {
     /** A rule's number, and what its words rule out in the code, comments and texts left aside. */
     private static final String[][] RULED_OUT = {
         {"rule 1", "^\\s*package\\b"},
-        {"rule 2", "->|::"},
+        {"rule 2", "^(?!\\s*(?:case|default)\\b).*->|::"},
         {"rule 4", "\\bimport (?!java\\.util\\.(NoSuchElementException|ArrayList|List|Iterator|Arrays);)"},
         {"rule 4", "\\b\\w+Exact\\("},
         {"rule 5", "\\bstatic \\{"},

@@ -53,10 +53,19 @@ final class Run {
         return answersAfter(made, asksOf(disk), MOST_CALLS);
     }
 
-    List<Object> sightAfterAskingAll() {
-        List<Call> asked = new ArrayList<>(told);
-        asked.addAll(asks(disks));
-        return sight(asked);
+    /** What is answered to each thing that can be asked or done next, on an object of its own. */
+    List<Object> eachAlone(boolean allWasAskedBefore) {
+        List<Call> made = new ArrayList<>(told);
+        if (allWasAskedBefore) {
+            made.addAll(asks(disks));
+        }
+        return answersAfter(made, askedAndDone(), made.size() + 1);
+    }
+
+    private List<Call> askedAndDone() {
+        List<Call> calls = asks(disks + 1);
+        calls.addAll(probes(disks));
+        return calls;
     }
 
     List<Object> sight() {
@@ -72,8 +81,7 @@ final class Run {
         List<Call> also = new ArrayList<>(told);
         also.add(refused);
         List<Object> sightAfter = sight(also);
-        List<Call> seen = asks(disks + 1);
-        seen.addAll(probes(disks));
+        List<Call> seen = askedAndDone();
         for (int i = 0; i < sightBefore.size() && i < sightAfter.size(); i++) {
             if (!sightBefore.get(i).equals(sightAfter.get(i))) {
                 return seen.get(i) + " then " + Tester.text(sightAfter.get(i)) + ", before " + Tester.text(sightBefore.get(i));
@@ -82,7 +90,7 @@ final class Run {
         return "";
     }
 
-    /** Whatever is asked, and what is answered to each thing that could be done next. */
+    /** What is answered to each thing that can be asked or done next, in the order of askedAndDone(). */
     private List<Object> sight(List<Call> made) {
         List<Object> answers = answersAfter(made, asks(disks + 1), MOST_CALLS);
         answers.addAll(answersAfter(made, probes(disks), made.size() + 1));

@@ -19,8 +19,9 @@ import java.util.function.Supplier;
 public final class SentenceTest {
     private static final Path DOCUMENT = Path.of("../shared/DOC.md");
 
-    private static final List<Supplier<Sentences>> GROUPS = List.of(TermsSentences::new, HandsSentences::new,
-            CratesSentences::new, WipingSentences::new, MissingSentences::new, AskedSentences::new);
+    private static final List<Supplier<Sentences>> GROUPS = List.of(TermsSentences::new,
+            TermsOfWipingSentences::new, TermsOfExceptionsSentences::new, HandsSentences::new, CratesSentences::new,
+            WipingSentences::new, MissingSentences::new, AskedSentences::new);
 
     public static void main(String[] args) throws IOException {
         Tester tester = new Tester();
