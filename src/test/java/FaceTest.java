@@ -1,14 +1,21 @@
+import java.io.IOException;
 import java.lang.reflect.Constructor;
 import java.lang.reflect.Field;
 import java.lang.reflect.Method;
 import java.lang.reflect.Modifier;
+import java.nio.charset.StandardCharsets;
+import java.nio.file.Files;
+import java.nio.file.Path;
 import java.util.ArrayList;
 import java.util.Arrays;
 import java.util.List;
 import java.util.TreeSet;
 
-/** The class shows the document's public face, to the letter, and nothing else. */
+/** The class shows the document's public face, to the letter, and nothing else; run in the project's directory. */
 public final class FaceTest {
+    private static final Path DOCUMENT = Path.of("../shared/DOC.md");
+    private static final Path SOURCE = Path.of("src/main/java/Shredroll.java");
+
     private static final String INDEX = "java.lang.IndexOutOfBoundsException";
     private static final String ARGUMENT = "java.lang.IllegalArgumentException";
     private static final String STATE = "java.lang.IllegalStateException";
@@ -48,7 +55,7 @@ public final class FaceTest {
 
     private static final String[] CONSTANTS = {"NONE=-1", "RAW=0", "WIPED=1", "SPOILED=2", "BROKEN=3"};
 
-    public static void main(String[] args) throws IllegalAccessException {
+    public static void main(String[] args) throws IllegalAccessException, IOException {
         Tester tester = new Tester();
         tester.due("modifiers", Modifier.toString(Shredroll.class.getModifiers()), "public final");
         tester.due("methods", shownMethods(), new TreeSet<>(Arrays.asList(METHODS)));
@@ -56,7 +63,31 @@ public final class FaceTest {
         tester.due("constructors", shownConstructors(), List.of("public Shredroll()"));
         tester.due("private methods named like public ones", namesakes(), new TreeSet<String>());
         tester.due("static fields that are not final", changeableStatics(), new TreeSet<String>());
+        hasEachLineOfTheDocument(tester);
         tester.end();
+    }
+
+    /** Reflection does not tell the names of parameters; the text of the class does. */
+    private static void hasEachLineOfTheDocument(Tester tester) throws IOException {
+        String source = Files.readString(SOURCE, StandardCharsets.UTF_8).replaceAll("\\s+", " ");
+        List<String> face = faceOfTheDocument();
+        // The constructor, and two lines of constants.
+        tester.due("lines of the document's face", face.size(), METHODS.length + 3);
+        for (String line : face) {
+            boolean isConstant = line.startsWith("public static final ");
+            String due = isConstant ? line : line.replace("java.util.", "").replaceFirst(";$", " {");
+            tester.due("the class has the line " + due, source.contains(" " + due + " "), true);
+        }
+    }
+
+    private static List<String> faceOfTheDocument() throws IOException {
+        List<String> document = Files.readAllLines(DOCUMENT, StandardCharsets.UTF_8);
+        int start = document.indexOf("public final class Shredroll {") + 1;
+        List<String> face = new ArrayList<>();
+        for (int i = start; i < document.size() && !document.get(i).equals("}"); i++) {
+            face.add(document.get(i).strip());
+        }
+        return face;
     }
 
     private static String method(String signature, String... thrown) {
